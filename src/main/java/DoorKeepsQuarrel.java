@@ -17,6 +17,7 @@ public final class DoorKeepsQuarrel {
     private static final int MOST_ODDS = 20;
     private static final int MOST_DAYS = 20;
     private static final int DRAWS_A_DAY = 12;
+    private static final int ALL_BUT_SIGN = 0x7fffffff;
 
     private static final int DOOR = 0;
     private static final int OAK = 1;
@@ -799,7 +800,7 @@ public final class DoorKeepsQuarrel {
     }
 
     private static int drawn(int z, int below) {
-        return below < 1 ? 0 : (z & Integer.MAX_VALUE) / 256 % below;
+        return below < 1 ? 0 : (z & ALL_BUT_SIGN) / 256 % below;
     }
 
     // ---- the image and counts
@@ -1009,7 +1010,8 @@ public final class DoorKeepsQuarrel {
         }
 
         void open(int person, int door) {
-            mood[person] = Math.min(MOST_MOOD, mood[person] + given(door));
+            int given = Kinds.gives(kind[door], figure[door], heat[door]);
+            mood[person] = Math.min(MOST_MOOD, mood[person] + given);
             fill(door, Kinds.keeps(kind[door], figure[door], said(person)), person);
             place[person] = beyond(door, place[person]);
             mood[person] = Math.max(0, mood[person] - RELIEF);
@@ -1031,7 +1033,7 @@ public final class DoorKeepsQuarrel {
         void pass(int n) {
             hour += n;
             for (int d = 0; d < doors; d++) {
-                fill(d, heatAfter(d, n), voice[d]);
+                fill(d, Kinds.cooled(kind[d], figure[d], heat[d], n), voice[d]);
             }
             for (int p = 0; p < people; p++) {
                 mood[p] = moodAfter(p, n);
