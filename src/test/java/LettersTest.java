@@ -85,6 +85,10 @@ public final class LettersTest {
         // Kind 1 is told first, wherever it is.
         fault("dd000;p09;x", -1010);
         fault("a5;h", -1004);
+        // Letters told before are no more: none of them ends what lacks its end now.
+        DoorKeepsQuarrel x = CHECK.house("dd001;p00;");
+        CHECK.due("its end lacks", Check.tell(x, "dd001"), -1005);
+        CHECK.due("the end of the second lacks", Check.tell(x, "dd001;p0"), -1008);
     }
 
     private static void notAsItMustBe() {

@@ -135,6 +135,8 @@ public final class WaysTest {
         CHECK.due("1 given is more than none", x.air(0, 1), 0);
         x.quarrels(0, 1, 0);
         CHECK.due("none given already", x.air(0, 1), -9);
+        x = CHECK.house("do001;dg912;p00;q0100;q1280;");
+        CHECK.due("the one that gives most now", x.air(0, 2), 1);
     }
 
     private static void shut() {
