@@ -61,7 +61,10 @@ public final class FractionsTest {
         CHECK.due("another part", x.mean(2), REFUSED + 2);
         CHECK.due("another part", x.mean(-1), REFUSED + 2);
         CHECK.due("counted", x.count(12), 2);
-        CHECK.more(x, "dd001;dd001;dd001;dd001;p00;");
+        CHECK.more(x, "dd001;p00;q0130;");
+        CHECK.due("of one", x.mean(0), 13);
+        CHECK.due("of one", x.mean(1), 1);
+        CHECK.more(x, "a0;dd001;dd001;dd001;");
         CHECK.due("0 by 1", x.mean(0), 0);
         CHECK.due("0 by 1", x.mean(1), 1);
         CHECK.more(x, "q0100;q1200;");

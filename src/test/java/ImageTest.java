@@ -6,6 +6,7 @@ public final class ImageTest {
         image();
         whatIsNotInIt();
         nothingIsLeftOver();
+        noDoorIsLeftToTwo();
         counts();
         CHECK.end();
     }
@@ -61,8 +62,10 @@ public final class ImageTest {
     private static void nothingIsLeftOver() {
         DoorKeepsQuarrel x = CHECK.house("dd001;p50;");
         x.image();
-        CHECK.more(x, "ds912;p91;q1991;");
+        CHECK.more(x, "ds912;p91;q1901;");
         x.moods(1, 99);
+        // Days by lot are thought of everything as it is now; nothing of them may be left either.
+        x.lots(1, 1, 0);
         x.on();
         CHECK.due("no heat", x.count(3), 0);
         CHECK.due("no moods", x.count(4), 0);
@@ -79,10 +82,23 @@ public final class ImageTest {
         CHECK.due("nothing to air", x.air(0, 1), -9);
         CHECK.due("the mean", x.mean(0), 0);
         CHECK.due("he meets himself", x.meet(1), 0);
+        Check.rowOf(x, 0, 99);
+        CHECK.due("no second door to judge", x.judge(), 1);
         CHECK.more(x, "do012;p31;");
         CHECK.due("a new door is cold", x.door(1, 4), 0);
         CHECK.due("and has no voice", x.door(1, 5), 9);
         CHECK.due("who comes is in the best mood", x.person(1, 2), 0);
+    }
+
+    private static void noDoorIsLeftToTwo() {
+        DoorKeepsQuarrel x = CHECK.house("dd001;p50;p60;");
+        x.image();
+        CHECK.more(x, "dd001;");
+        CHECK.due("the second door", x.order(0, 1, 1), 0);
+        x.on();
+        CHECK.due("it has never been", x.order(0, 1, 1), -1);
+        CHECK.due("it has never been", x.echo(0, 1, 1), 1000000001);
+        CHECK.due("it has never been", x.two(0, 1, 1), -1);
     }
 
     private static void counts() {

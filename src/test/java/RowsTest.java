@@ -7,6 +7,7 @@ public final class RowsTest {
         judges();
         who();
         whatItIs();
+        byKindAndFigureAsNow();
         CHECK.end();
     }
 
@@ -65,6 +66,26 @@ public final class RowsTest {
         CHECK.due("nothing changes", x.count(3), 0);
         CHECK.due("no such door", x.who(3), -1);
         CHECK.due("no such door", x.who(-1), -1);
+    }
+
+    private static void byKindAndFigureAsNow() {
+        DoorKeepsQuarrel x = CHECK.house("do301;p50;p30;");
+        x.moods(0, 12);
+        x.moods(1, 30);
+        x.row(18);
+        CHECK.due("who says 18 at an oak", x.who(0), 2);
+        x.turn(0, 3, 7);
+        CHECK.due("who says 11 at a slammed one of 7", x.who(0), 1);
+        x.turn(0, 3, 0);
+        CHECK.due("who says 18 at a slammed one of 0", x.who(0), 2);
+        x.turn(0, 1, 5);
+        x.quarrels(0, 40, 0);
+        Check.rowOf(x, 40, 33);
+        CHECK.due("glass of 5", x.whatIs(0, 0), 16);
+        CHECK.due("oak of no figure", x.whatIs(0, 1), 0);
+        x.turn(0, 4, 0);
+        CHECK.due("nothing of 0", x.whatIs(0, 0), 0);
+        CHECK.due("glass of figure 5", x.whatIs(0, 1), 32);
     }
 
     private static void whatItIs() {

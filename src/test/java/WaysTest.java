@@ -113,6 +113,9 @@ public final class WaysTest {
         CHECK.due("which to air, as now", x.air(0, 1), 0);
         x.quarrels(0, 20, 0);
         CHECK.due("by the glass one", x.goes(0, 1), 9);
+        // An hour ago the oak would have been the better way.
+        x.quarrels(0, 15, 0);
+        CHECK.due("by the glass one, as now", x.goes(0, 1), 9);
     }
 
     private static void air() {
@@ -137,6 +140,9 @@ public final class WaysTest {
         CHECK.due("none given already", x.air(0, 1), -9);
         x = CHECK.house("do001;dg912;p00;q0100;q1280;");
         CHECK.due("the one that gives most now", x.air(0, 2), 1);
+        // An hour ago the glass one gave more.
+        x.quarrels(0, 15, 0);
+        CHECK.due("the one that gives most now", x.air(0, 2), 0);
     }
 
     private static void shut() {
