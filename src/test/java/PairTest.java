@@ -1,12 +1,15 @@
 /** Promises 25, 26 and 30: two people at one door. */
 public final class PairTest {
     private static final Check CHECK = new Check();
+    private static final String SIX_AT_ONE_DOOR = "dd301;p50;p30;p90;p00;p50;p70;";
 
     public static void main(String[] args) {
         order();
         echo();
         two();
         twoOfAllPairs();
+        alikeButNotTheFirst();
+        asLived();
         refusals();
         CHECK.end();
     }
@@ -61,6 +64,80 @@ public final class PairTest {
         x.moods(1, 0);
         CHECK.due("the first leaves too much", x.two(0, 1, 0), 10);
         CHECK.due("ahead of him he may", x.two(1, 0, 0), 11);
+    }
+
+    private static void alikeButNotTheFirst() {
+        DoorKeepsQuarrel x = CHECK.house("dc001;p90;p30;p50;p50;p70;p20;");
+        CHECK.due("alike: the lesser of 2 and 3", x.order(2, 3, 0), 2);
+        CHECK.due("alike: the lesser of 2 and 3", x.order(3, 2, 0), 2);
+        CHECK.due("alike: the lesser of the last two", x.order(5, 4, 0), 4);
+    }
+
+    // ---- what is thought of two, set beside what becomes of them when they really open it
+
+    private static void asLived() {
+        int[] moods = {0, 4, 50, 99};
+        for (int kind = 0; kind < 6; kind++) {
+            for (int heat : new int[] {0, 1, 8, 9, 10, 40, 99}) {
+                for (int moodOfA : moods) {
+                    for (int moodOfB : moods) {
+                        pairsAsLived(kind, heat, moodOfA, moodOfB);
+                    }
+                }
+            }
+        }
+    }
+
+    private static void pairsAsLived(int kind, int heat, int moodOfA, int moodOfB) {
+        for (int a = 0; a < 6; a++) {
+            for (int b = 0; b < 6; b++) {
+                if (a != b) {
+                    DoorKeepsQuarrel x = CHECK.house(SIX_AT_ONE_DOOR);
+                    x.turn(0, kind, 3);
+                    x.quarrels(0, heat, 0);
+                    x.moods(a, moodOfA);
+                    x.moods(b, moodOfB);
+                    x.image();
+                    pairAsLived(x, a, b, kind + " of heat " + heat + ", moods " + moodOfA + ", " + moodOfB);
+                }
+            }
+        }
+    }
+
+    /** The mood of one behind all who open the door, one behind the other. */
+    private static int moodBehind(DoorKeepsQuarrel x, int whose, int... who) {
+        for (int p : who) {
+            x.opens(p, 0);
+        }
+        int mood = x.person(whose, 2);
+        x.on();
+        return mood;
+    }
+
+    private static void pairAsLived(DoorKeepsQuarrel x, int a, int b, String told) {
+        String pair = "(" + a + ", " + b + ", 0) at kind " + told;
+        int aFirst = moodBehind(x, a, a, b) + moodBehind(x, b, a, b);
+        int bFirst = moodBehind(x, a, b, a) + moodBehind(x, b, b, a);
+        int better = aFirst < bFirst || aFirst == bFirst && a < b ? a : b;
+        CHECK.due("order" + pair, x.order(a, b, 0), better);
+        CHECK.due("echo" + pair, x.echo(a, b, 0), moodBehind(x, b, a, b) - moodBehind(x, b, b));
+        CHECK.due("two" + pair, x.two(a, b, 0), pairOfWishes(x, a, b));
+    }
+
+    private static int pairOfWishes(DoorKeepsQuarrel x, int a, int b) {
+        int[][] opening = {{}, {b}, {a}, {a, b}};
+        int[] ofA = new int[4];
+        int[] ofB = new int[4];
+        for (int i = 0; i < 4; i++) {
+            ofA[i] = moodBehind(x, a, opening[i]) - 4 * (i / 2);
+            ofB[i] = moodBehind(x, b, opening[i]) - 4 * (i % 2);
+        }
+        for (int i = 0; i < 4; i++) {
+            if (ofA[i] <= ofA[i ^ 2] && ofB[i] <= ofB[i ^ 1]) {
+                return 10 * (i / 2) + i % 2;
+            }
+        }
+        return -9;
     }
 
     private static void refusals() {

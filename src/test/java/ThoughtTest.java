@@ -36,14 +36,14 @@ public final class ThoughtTest {
         add("doorThen", new int[][] {{0, 3, 0}, {1, 9, 1}});
         add("moodThen", new int[][] {{0, 1}, {1, 0}});
         add("first", new int[][] {{0}, {1}, {2}});
-        add("way", new int[][] {{0, 4, 0}, {0, 4, 1}, {1, 0, 2}, {2, 3, 0}});
-        add("fewest", new int[][] {{0, 4}, {1, 0}});
+        add("way", new int[][] {{0, 4, 0}, {0, 4, 1}, {1, 0, 2}, {2, 3, 0}, {0, 5, 0}, {0, 6, 1}, {2, 6, 2}});
+        add("fewest", new int[][] {{0, 4}, {1, 0}, {0, 6}});
         add("near", new int[][] {{0}, {1}, {2}});
         add("cutOff", NONE);
-        add("goes", new int[][] {{0, 4}, {1, 0}});
+        add("goes", new int[][] {{0, 4}, {1, 0}, {0, 6}});
         add("air", new int[][] {{0, 4}, {1, 0}});
         add("shut", new int[][] {{0, 4}, {0, 1}, {1, 0}, {1, 2}});
-        add("pause", new int[][] {{0, 2, 5}, {1, 0, 20}});
+        add("pause", new int[][] {{0, 2, 5}, {1, 0, 20}, {0, 6, 99}});
         add("walk", new int[][] {{0, 0}, {0, 1}, {2, 0}, {2, 1}});
         add("order", new int[][] {{0, 2, 0}, {2, 0, 0}});
         add("echo", new int[][] {{0, 2, 0}, {2, 0, 0}});
@@ -100,7 +100,8 @@ public final class ThoughtTest {
     private void eachBehindAFault() {
         for (int j = 0; j < names.size(); j++) {
             DoorKeepsQuarrel x = changed();
-            Check.tell(x, "db956;db956;p96;q4993;q0990;o20;h09;a1;dd000;");
+            int fault = Check.tell(x, "db956;dg961;dc014;p96;q4993;q0990;o20;h09;a1;dd000;");
+            CHECK.due("a fault behind much", fault, -2045);
             CHECK.due(told(j) + " behind a fault", ask(x, j), ask(changed(), j));
         }
     }
@@ -110,7 +111,7 @@ public final class ThoughtTest {
         for (int j = 0; j < names.size(); j++) {
             DoorKeepsQuarrel x = changed();
             x.image();
-            CHECK.more(x, "db956;dg961;p96;p96;q4993;q5993;q0990;h09;a1;");
+            CHECK.more(x, "db956;dg961;dc014;p96;p96;q4993;q5993;q0990;h09;a1;");
             for (int p = 0; p < 5; p++) {
                 x.moods(p, 99);
                 x.stands(p, 6);
